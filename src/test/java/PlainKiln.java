@@ -352,27 +352,51 @@ final class PlainKiln {
         return index < wish.size() ? wish.get(index) : NOT_FOUND;
     }
 
-    /** The best plan as pairs (set, heat), or null: by trying lengths, and sets in their order. */
+    private String planIsFor = "";
+    private List<int[]> keptPlan = null;
+
     private List<int[]> plan() {
+        StringBuilder wanted = new StringBuilder("plan");
+        for (List<Integer> wish : now.wishes) {
+            wish.forEach(c -> wanted.append(Arrays.toString(now.colors.get(c))));
+            wanted.append(';');
+        }
+        if (!planIsFor.equals(wanted.toString())) {
+            planIsFor = wanted.toString();
+            keptPlan = findPlan();
+        }
+        return keptPlan;
+    }
+
+    /** The best plan as pairs (set, heat), or null: by trying lengths, and sets in their order. */
+    private List<int[]> findPlan() {
         int total = now.wishes.stream().mapToInt(List::size).sum();
+        Set<Integer> hopeless = new HashSet<>();
         for (int length = 0; length <= total; length++) {
             List<int[]> plan = new ArrayList<>();
-            if (planned(new int[6], length, plan, new HashSet<>())) {
+            if (planned(new int[6], length, plan, hopeless)) {
                 return plan;
             }
         }
         return null;
     }
 
-    private boolean planned(int[] done, int left, List<int[]> plan, Set<String> hopeless) {
+    private boolean planned(int[] done, int left, List<int[]> plan, Set<Integer> hopeless) {
         boolean ready = true;
         for (int f = 0; f < 6; f++) {
             ready &= done[f] == now.wishes.get(f).size();
+            // A firing gives a field one layer at most.
+            if (now.wishes.get(f).size() - done[f] > left) {
+                return false;
+            }
         }
         if (ready || left == 0) {
             return ready && left == 0;
         }
-        String key = Arrays.toString(done) + left;
+        int key = left;
+        for (int layers : done) {
+            key = key * 4 + layers;
+        }
         if (hopeless.contains(key)) {
             return false;
         }

@@ -2,7 +2,7 @@ import java.util.Random;
 
 /** Random runs, the same at each time, of the program against PlainKiln: all promises. */
 final class PlainModelTest {
-    private static final int RUNS = 400;
+    private static final int RUNS = 100;
     private static final int CALLS = 512;
     private static final int[] STRANGE = {
         Integer.MIN_VALUE, Integer.MAX_VALUE, -1, -2, 3, 6, 7, 12, 23, 100, 499, 1201, 65536
