@@ -251,21 +251,19 @@ public final class EnamelKiln {
         }
     }
 
-    // A degree less changes which layers become smooth only at a melting heat, and it never burns
-    // or dulls more of them: so the best heat is the least one of all or some melting heat.
+    // As long as none burns, a greater heat melts and dulls no fewer layers: so of the heats that
+    // melt most, the least has the fewest dull ones, too; it is the least of all or a melting heat.
     public int bestHeat() {
         tryHeat(LEAST_HEAT);
         int best = LEAST_HEAT;
         int mostSmooth = firing.smooth;
-        int fewestDull = firing.dull;
         for (int color = 0; color < bench.palette.size; color++) {
             int heat = bench.palette.melting[color];
             tryHeat(heat);
-            if (firing.burnt == 0 && (firing.smooth > mostSmooth || firing.smooth == mostSmooth
-                    && (firing.dull < fewestDull || firing.dull == fewestDull && heat < best))) {
+            if (firing.burnt == 0 && (firing.smooth > mostSmooth
+                    || firing.smooth == mostSmooth && heat < best)) {
                 best = heat;
                 mostSmooth = firing.smooth;
-                fewestDull = firing.dull;
             }
         }
         return best;

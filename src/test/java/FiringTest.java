@@ -338,7 +338,7 @@ final class FiringTest {
         x.put(0, 2);
         x.takeOff(2);
         Due.is("melting above a smooth one", x.bestHeat(), 720);
-        // 710 burns no layer and melts one, but only 650 does so without dulling the smooth one.
+        // 710 melts both, but the one of 650 would burn; at 650 one melts, and none dulls or burns.
         EnamelKiln y = new EnamelKiln();
         y.color(710, 900, 100);
         y.color(650, 660, 100);

@@ -11,6 +11,7 @@ final class PlansTest {
         promise15Wished();
         promise16LeastFirings();
         promise16NoPlan();
+        promise16LongestPlan();
         promise16FollowsChanges();
         promise17Planned();
         promise17LeastSets();
@@ -120,6 +121,19 @@ final class PlansTest {
         Due.is("planned(0, 2)", x.planned(0, 2), INVALID);
         wish(x, 0, 0, 1);
         Due.is("hot first", x.leastFirings(), 2);
+    }
+
+    private static void promise16LongestPlan() {
+        EnamelKiln x = new EnamelKiln();
+        int[][] due = new int[18][];
+        for (int field = 0; field < 6; field++) {
+            x.color(650 + 11 * field, 660 + 11 * field, 100);
+            wish(x, field, field, field, field);
+            for (int layer = 0; layer < 3; layer++) {
+                due[3 * (5 - field) + layer] = new int[] {1 << field, 650 + 11 * field};
+            }
+        }
+        plan("no two colors melt together", x, due);
     }
 
     private static void promise16FollowsChanges() {
