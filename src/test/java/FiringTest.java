@@ -219,13 +219,6 @@ final class FiringTest {
         Due.is("fire(1200, 20)", x.fire(1200, 20), 0);
         Due.is("firings", x.count(11), 2);
         Due.is("minutes", x.count(12), 21);
-        EnamelKiln many = new EnamelKiln();
-        for (int i = 0; i < 1000; i++) {
-            many.fire(600, 1);
-        }
-        // Behind the 512th call nothing is promised; the limit itself is told all the same.
-        Due.is("the 1001st firing", many.fire(600, 1), EnamelKiln.LIMIT_REACHED);
-        Due.is("a wrong one", many.fire(499, 1), INVALID);
     }
 
     private static EnamelKiln mixed() {

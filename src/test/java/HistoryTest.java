@@ -135,15 +135,7 @@ final class HistoryTest {
         return seen;
     }
 
-    private static void undone(EnamelKiln x, String change, int[] before) {
-        x.undo();
-        int[] after = all(x);
-        for (int i = 0; i < after.length; i++) {
-            Due.is("undo of " + change + ", " + i, after[i], before[i]);
-        }
-    }
-
-    private static void promise19EverythingElse() {
+    private static EnamelKiln worked() {
         EnamelKiln x = withColor();
         x.color(760, 780, 60);
         x.set(1, 0);
@@ -153,27 +145,35 @@ final class HistoryTest {
         x.fire(700, 3);
         x.put(0, 1);
         x.wish(3, 1);
-        int[] before = all(x);
-        x.color(800, 900, 70);
-        undone(x, "color", before);
-        x.put(4, 1);
-        undone(x, "put", before);
-        x.takeOff(0);
-        undone(x, "takeOff", before);
-        x.fire(760, 4);
-        undone(x, "fire", before);
-        x.fire(781, 4);
-        undone(x, "a hot fire", before);
-        x.set(2, 400);
-        undone(x, "set", before);
-        x.clean();
-        undone(x, "clean", before);
-        x.wish(3, 0);
-        undone(x, "wish", before);
-        x.wish(3, -1);
-        undone(x, "emptying a wish", before);
         Due.type(x, "3=;1=ab;");
-        x.read();
-        undone(x, "read", before);
+        return x;
+    }
+
+    private static int change(EnamelKiln x, int number) {
+        return switch (number) {
+            case 0 -> x.color(800, 900, 70);
+            case 1 -> x.put(4, 1);
+            case 2 -> x.takeOff(0);
+            case 3 -> x.fire(760, 4);
+            case 4 -> x.fire(781, 4);
+            case 5 -> x.set(2, 400);
+            case 6 -> x.clean();
+            case 7 -> x.wish(3, 0);
+            case 8 -> x.wish(3, -1);
+            default -> x.read();
+        };
+    }
+
+    private static void promise19EverythingElse() {
+        for (int number = 0; number < 10; number++) {
+            EnamelKiln x = worked();
+            int[] before = all(x);
+            Due.is("no error of change " + number, change(x, number) >= 0 ? 1 : 0, 1);
+            x.undo();
+            int[] after = all(x);
+            for (int i = 0; i < after.length; i++) {
+                Due.is("undo of change " + number + ", " + i, after[i], before[i]);
+            }
+        }
     }
 }

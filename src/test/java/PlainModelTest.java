@@ -2,8 +2,10 @@ import java.util.Random;
 
 /** Random runs, the same at each time, of the program against PlainKiln: all promises. */
 final class PlainModelTest {
-    private static final int RUNS = 100;
-    private static final int CALLS = 512;
+    private static final int RUNS = 400;
+    // Behind its 512th call nothing is promised of an object; a look at all of it takes 221 calls at most,
+    // one at some of it 3.
+    private static final int CALLS = 512 - 221 - 2;
     private static final int[] STRANGE = {
         Integer.MIN_VALUE, Integer.MAX_VALUE, -1, -2, 3, 6, 7, 12, 23, 100, 499, 1201, 65536
     };
@@ -13,6 +15,8 @@ final class PlainModelTest {
     private final PlainKiln plain = new PlainKiln();
     private final boolean plans;
     private String run = "";
+    private int calls = 0;
+    private int textPlace = 0;
 
     private PlainModelTest(int seed) {
         random = new Random(seed);
@@ -22,10 +26,12 @@ final class PlainModelTest {
     public static void main(String[] args) {
         for (int seed = 0; seed < RUNS; seed++) {
             PlainModelTest test = new PlainModelTest(seed);
-            for (int call = 0; call < CALLS; call++) {
-                test.run = "run " + seed + ", call " + call + ": ";
+            while (test.calls < CALLS) {
+                test.run = "run " + seed + ", call " + test.calls + ": ";
                 test.call();
             }
+            test.lookAtAll();
+            Due.is("calls of run " + seed + " within 512", Math.max(test.calls, 512), 512);
         }
         Due.end();
     }
@@ -38,21 +44,21 @@ final class PlainModelTest {
     }
 
     private int aColor() {
-        return one(0, Math.max(0, kiln.count(0) - 1));
+        return one(0, Math.max(0, plain.count(0) - 1));
     }
 
     private int aHeat() {
-        if (kiln.count(0) > 0 && random.nextInt(4) > 0) {
-            int color = random.nextInt(kiln.count(0));
+        if (plain.count(0) > 0 && random.nextInt(4) > 0) {
+            int color = random.nextInt(plain.count(0));
             int[] offsets = {0, -1, 1, -20, -21, -40, -41, 5};
-            return kiln.colorInfo(color, random.nextInt(2)) + offsets[random.nextInt(offsets.length)];
+            return plain.colorInfo(color, random.nextInt(2)) + offsets[random.nextInt(offsets.length)];
         }
         return one(500, 1200);
     }
 
     private int aCharacter() {
         String part = "";
-        for (int color = 0; color < kiln.count(0); color++) {
+        for (int color = 0; color < plain.count(0); color++) {
             part += (char) ('a' + color);
         }
         int place = textPlace;
@@ -73,9 +79,8 @@ final class PlainModelTest {
         return textPlace == 0 || part.isEmpty() ? ';' : part.charAt(random.nextInt(part.length()));
     }
 
-    private int textPlace = 0;
-
     private void due(String call, int got, int want) {
+        calls++;
         Due.is(run + call, got, want);
     }
 
@@ -123,7 +128,7 @@ final class PlainModelTest {
             case 12:
             case 13:
                 a = aHeat();
-                b = random.nextBoolean() ? kiln.count(8) : one(1, 20);
+                b = random.nextBoolean() ? plain.count(8) : one(1, 20);
                 due("fire(" + a + ", " + b + ")", kiln.fire(a, b), plain.fire(a, b));
                 break;
             case 14:
@@ -142,7 +147,7 @@ final class PlainModelTest {
                 due("undo()", kiln.undo(), plain.undo());
                 break;
             case 19:
-                lookAtAll();
+                lookAtSome();
                 break;
             case 20:
             case 21:
@@ -154,7 +159,7 @@ final class PlainModelTest {
                 due("type(" + a + ")", kiln.type(a), plain.type(a));
                 break;
             case 26:
-                if (random.nextInt(3) == 0 || kiln.fault(1) > 0 && kiln.fault(1) < 4) {
+                if (random.nextInt(3) == 0 || plain.fault(1) > 0 && plain.fault(1) < 4) {
                     textPlace = 0;
                     due("clearText()", kiln.clearText(), plain.clearText());
                 }
@@ -185,11 +190,22 @@ final class PlainModelTest {
                 due("leastFirings()", kiln.leastFirings(), plain.leastFirings());
                 break;
             default:
-                a = one(0, Math.max(0, kiln.leastFirings()));
+                a = one(0, Math.max(0, plain.leastFirings()));
                 b = one(0, 1);
                 due("planned(" + a + ", " + b + ")", kiln.planned(a, b), plain.planned(a, b));
                 break;
         }
+    }
+
+    private void lookAtSome() {
+        int a = one(0, 6);
+        int b = one(0, 2);
+        int c = one(0, 2);
+        int d = one(0, 5);
+        int e = one(0, 22);
+        due("layer(" + a + ", " + b + ", " + c + ")", kiln.layer(a, b, c), plain.layer(a, b, c));
+        due("field(" + a + ", " + d + ")", kiln.field(a, d), plain.field(a, d));
+        due("count(" + e + ")", kiln.count(e), plain.count(e));
     }
 
     private void lookAtAll() {
@@ -208,7 +224,7 @@ final class PlainModelTest {
                 due("wished(" + field + ", " + layer + ")", kiln.wished(field, layer), plain.wished(field, layer));
             }
         }
-        for (int color = 0; color < kiln.count(0); color++) {
+        for (int color = 0; color < plain.count(0); color++) {
             for (int what = 0; what < 6; what++) {
                 due("colorInfo(" + color + ", " + what + ")",
                     kiln.colorInfo(color, what), plain.colorInfo(color, what));
