@@ -677,6 +677,19 @@ final class FiringEdgesTest {
         }
     }
 
+    /** Promise 12: "with so many minutes as the setting time" (whatever the other settings are) */
+    static void ifFiredForTheTimeAmongOthers() {
+        int[][] settings = {{10, 0, 0}, {10, 5, 9}, {1, 5, 400}, {5, 4, 4}};
+        for (int[] s : settings) {
+            EnamelKiln x = withLayer(GRAINY);
+            for (int what = 0; what <= 2; what++) {
+                x.set(what, s[what]);
+            }
+            ifFired(x, 700, 0, 1);
+            Due.is("bestHeat()", x.bestHeat(), 700);
+        }
+    }
+
     /** Promise 12: "Nothing changes." */
     static void ifFiredChangesNothing() {
         for (int heat : new int[] {499, 500, 680, 700, 760, 801, 1200}) {
@@ -757,6 +770,23 @@ final class FiringEdgesTest {
         x.set(1, 0);
         x.fire(680, 1);
         ifFired(x, 680, 2, 0);
+    }
+
+    /** Promise 12: "2: layers that become dull" (by the softenings that each has by now) */
+    static void ifFiredDullBySoftenings() {
+        for (int allowed = 0; allowed <= 5; allowed++) {
+            EnamelKiln x = new EnamelKiln();
+            x.color(700, 800, 100);
+            x.color(700, 800, 100);
+            x.set(1, allowed);
+            x.put(0, 0);
+            x.put(6, 1);
+            x.fire(700, 3);
+            for (int softened = 0; softened <= 6; softened++) {
+                ifFired(x, 680, 2, softened == allowed ? 2 : 0);
+                x.fire(680, 1);
+            }
+        }
     }
 
     /** Promise 12: "3: fields that would crack" (none, all six, also those that are mended before) */
@@ -879,6 +909,46 @@ final class FiringEdgesTest {
         x.takeOff(1);
         x.set(1, 5);
         Due.is("none melts, none dulls: the least", x.bestHeat(), 500);
+    }
+
+    /** Promise 13: "then the least one" (in whatever order the colors are) */
+    static void bestHeatIsTheLeastOfSeveral() {
+        int[][] orders = {{700, 760, 820}, {820, 760, 700}, {760, 820, 700}, {760, 700, 820}};
+        for (int[] melting : orders) {
+            for (int raw = 0; raw < 3; raw++) {
+                EnamelKiln x = new EnamelKiln();
+                for (int color = 0; color < 3; color++) {
+                    x.color(melting[color], 900, 100);
+                }
+                x.put(0, raw);
+                x.put(6, raw);
+                Due.is("of " + melting[raw], x.bestHeat(), melting[raw]);
+                x.fire(melting[raw], 3);
+                Due.is("of none", x.bestHeat(), 500);
+                x.set(1, 0);
+                Due.is("of none, if it dulled", x.bestHeat(), 500);
+            }
+        }
+    }
+
+    /** Promise 13: "and most layers become smooth, of several" (cracks and mending do not matter) */
+    static void bestHeatHeedsNoCracks() {
+        EnamelKiln x = new EnamelKiln();
+        x.color(600, 800, 60);
+        x.color(800, 900, 100);
+        x.set(2, 400);
+        x.put(0, 0);
+        x.put(1, 0);
+        x.fire(600, 3);
+        x.set(2, 0);
+        x.put(2, 1);
+        Due.is("cracks at any heat", x.ifFired(500, 3), 2);
+        Due.is("one melts", x.bestHeat(), 800);
+        x.fire(500, 3);
+        Due.is("two could be mended", x.ifFired(580, 4), 2);
+        Due.is("one melts", x.bestHeat(), 800);
+        x.takeOff(2);
+        Due.is("none melts", x.bestHeat(), 500);
     }
 
     /** Promise 13: "by which no layer becomes burnt" (raw, grainy, smooth and dull ones) */

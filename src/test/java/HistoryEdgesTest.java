@@ -426,6 +426,30 @@ final class HistoryEdgesTest {
         }
     }
 
+    /** Promise 19: "Restores the latest state of the history" (each softening of each layer) */
+    static void undoOfSoftenings() {
+        EnamelKiln x = new EnamelKiln();
+        for (int color = 0; color <= 6; color++) {
+            x.color(700, 800, 100);
+        }
+        for (int field = 0; field <= 6; field++) {
+            x.put(field, field);
+            x.fire(700, 3);
+        }
+        for (int field = 0; field <= 6; field++) {
+            Due.is("softenings of " + field, x.layer(field, 0, 2), 6 - field);
+        }
+        x.fire(680, 1);
+        x.fire(680, 1);
+        for (int back = 1; back >= 0; back--) {
+            Due.is("undo()", x.undo() >= 0 ? 1 : 0, 1);
+            for (int field = 0; field <= 6; field++) {
+                Due.is("softenings of " + field, x.layer(field, 0, 2), 6 - field + back);
+                Due.is("state of " + field, x.layer(field, 0, 1), 6 - field + back > 2 ? 3 : 2);
+            }
+        }
+    }
+
     /** Promise 19: "Returns the number of states that are left in the history" */
     static void undoReturnsWhatIsLeft() {
         for (int changes = 1; changes <= 6; changes++) {

@@ -341,6 +341,32 @@ final class PlansEdgesTest {
         plan(x, 2, 750, 2, 750, 3, 750);
     }
 
+    /** Promise 17, Plans: "no color that was put by an earlier firing of this plan burns" (each layer of each field) */
+    static void noEarlierOneBurnsWhereverItIs() {
+        for (int field = 0; field <= 5; field++) {
+            int other = (field + 1) % 6;
+            for (int thin = 0; thin <= 1; thin++) {
+                // The color 0 burns above 750, the color 1 does not; then the color 2 melts at 760.
+                EnamelKiln x = withHeats(700, 750, 700, 900, 760, 900);
+                want(x, field, thin == 0 ? 0 : 1, thin == 1 ? 0 : 1, 2);
+                noPlan(x);
+                want(x, field, thin == 0 ? 0 : 1, thin == 1 ? 0 : 1, 1);
+                want(x, other, 2);
+                // That of the other field goes ahead of the thin one, with the stouter one if this is first.
+                if (thin == 0) {
+                    plan(x, 1 << other, 760, 1 << field, 700, 1 << field, 700, 1 << field, 700);
+                } else {
+                    plan(x, 1 << field | 1 << other, 760, 1 << field, 700, 1 << field, 700);
+                }
+            }
+            EnamelKiln y = withHeats(700, 750, 700, 900, 760, 900);
+            want(y, field, 1, 1, 0);
+            want(y, other, 2, 2, 2);
+            Due.is("the thin one last", y.leastFirings(), 4);
+            Due.is("set of the last", y.planned(3, 0), 1 << field);
+        }
+    }
+
     /** Promise 17, Plans: "no color that was put by an earlier firing of this plan burns" (by one that gets too hot) */
     static void noPlanIfEachShutsTheOtherOut() {
         EnamelKiln x = withHeats(700, 750, 760, 900);
@@ -716,6 +742,18 @@ final class PlansEdgesTest {
         y.undo();
         y.color(700, 800, 101);
         Due.is("the twelfth pulls least", y.counter(), 11);
+    }
+
+    /** Promise 18: "is least" (a strain of 0 is less than one of 1) */
+    static void counterOfNoughtBeforeOne() {
+        for (int[] pulls : new int[][] {{49, 50}, {51, 50}}) {
+            EnamelKiln x = withPulls(pulls);
+            for (int field = 0; field <= 5; field++) {
+                x.put(field, 1);
+            }
+            x.fire(700, 3);
+            Due.is("50 for 50", x.counter(), 1);
+        }
     }
 
     /** Promise 18: "of several the one with the least number" (strains from both sides are equal) */
