@@ -539,6 +539,42 @@ final class FiringEdgesTest {
         Due.is("burnt, smooth and raw", x.field(0, 3), 1);
     }
 
+    /** Promise 11, Firing: "and has a layer that is smooth or dull" (a layer of its own, that is there now) */
+    static void cracksWithLayersOfItsOwnOnly() {
+        EnamelKiln x = new EnamelKiln();
+        x.color(700, 800, 100);
+        x.set(2, 400);
+        for (int field = 0; field <= 5; field++) {
+            x.put(field, 0);
+        }
+        x.fire(700, 3);
+        x.clean();
+        x.put(6, 0);
+        x.fire(700, 3);
+        x.set(2, 0);
+        x.fire(500, 1);
+        Due.is("bare ones, where there were layers", x.count(7), 0);
+        x.put(3, 0);
+        x.fire(500, 1);
+        Due.is("a raw one, where there was a smooth one", x.count(7), 0);
+        for (int field = 0; field <= 4; field++) {
+            EnamelKiln y = new EnamelKiln();
+            y.color(700, 800, 100);
+            y.color(600, 610, 100);
+            for (int layer = 0; layer < 3; layer++) {
+                Due.is("put", y.put(field, 1), layer);
+                y.fire(611, 1);
+            }
+            y.put(field + 1, 0);
+            y.put(6, 0);
+            y.set(2, 69);
+            y.fire(700, 3);
+            Due.is("three burnt ones beside a smooth one", y.field(field, 3), 0);
+            Due.is("strain", y.field(field, 2), 70);
+            Due.is("cracked ones", y.count(7), 0);
+        }
+    }
+
     /** Promise 11, Firing: "(The back never cracks.)" */
     static void theBackNeverCracks() {
         EnamelKiln x = new EnamelKiln();

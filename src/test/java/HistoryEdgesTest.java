@@ -426,6 +426,54 @@ final class HistoryEdgesTest {
         }
     }
 
+    /** Promise 19: "Restores the latest state of the history" (wishes in whose place others came) */
+    static void undoOfWishesThatWereReplaced() {
+        EnamelKiln x = withColor();
+        x.color(760, 900, 100);
+        x.wish(0, 0);
+        x.wish(0, -1);
+        x.wish(0, 1);
+        Due.is("the new one", x.wished(0, 0), 1);
+        Due.is("its heat", x.planned(0, 1), 760);
+        x.undo();
+        Due.is("none", x.wished(0, 0), NOT_FOUND);
+        x.undo();
+        Due.is("the old one", x.wished(0, 0), 0);
+        Due.is("its heat", x.planned(0, 1), 700);
+        Due.type(x, "0=b;5=bb;");
+        Due.is("read()", x.read(), 2);
+        Due.is("the read one", x.wished(0, 0), 1);
+        x.undo();
+        Due.is("the old one", x.wished(0, 0), 0);
+        Due.is("none", x.wished(5, 0), NOT_FOUND);
+        Due.is("firings", x.leastFirings(), 1);
+    }
+
+    /** Promise 19: "Restores the latest state of the history" (layers in whose place others came) */
+    static void undoOfLayersThatWereReplaced() {
+        for (int field = 0; field <= 6; field++) {
+            EnamelKiln x = withColor();
+            x.color(720, 900, 130);
+            x.put(field, 0);
+            x.takeOff(field);
+            x.put(field, 1);
+            Due.is("the new one", x.layer(field, 0, 0), 1);
+            x.undo();
+            Due.is("none", x.layer(field, 0, 0), NOT_FOUND);
+            x.undo();
+            Due.is("the old one", x.layer(field, 0, 0), 0);
+            x.fire(700, 3);
+            x.clean();
+            x.put(field, 1);
+            Due.is("the new one", x.layer(field, 0, 1), 0);
+            x.undo();
+            x.undo();
+            Due.is("the color of the old one", x.layer(field, 0, 0), 0);
+            Due.is("its state", x.layer(field, 0, 1), 2);
+            Due.is("its pull", x.field(field, 1), 70);
+        }
+    }
+
     /** Promise 19: "Restores the latest state of the history" (each softening of each layer) */
     static void undoOfSoftenings() {
         EnamelKiln x = new EnamelKiln();
