@@ -3,7 +3,6 @@ final class FiringEdgesTest {
     private static final int MIN = Integer.MIN_VALUE;
     private static final int MAX = Integer.MAX_VALUE;
     private static final int INVALID = -1;
-    private static final int LIMIT = -3;
     private static final int RAW = 0;
     private static final int GRAINY = 1;
     private static final int SMOOTH = 2;
@@ -683,20 +682,6 @@ final class FiringEdgesTest {
             Due.is("firing " + firing, x.fire(600, 20), 0);
         }
         Due.is("firings", x.count(11), 511);
-    }
-
-    /** Promise 11: "LIMIT_REACHED if it was fired 1000 times" (as the class does, beyond what is promised) */
-    static void fireAThousandTimes() {
-        EnamelKiln x = new EnamelKiln();
-        for (int firing = 0; firing < 1000; firing++) {
-            Due.is("firing " + firing, x.fire(600, 1), 0);
-        }
-        Due.is("the 1001st", x.fire(600, 1), LIMIT);
-        Due.is("a wrong one rather", x.fire(499, 1), INVALID);
-        Due.is("firings", x.count(11), 1000);
-        x.undo();
-        Due.is("the 1000th again", x.fire(600, 1), 0);
-        Due.is("the 1001st again", x.fire(600, 1), LIMIT);
     }
 
     // ---- ifFired

@@ -4,95 +4,93 @@ import java.lang.reflect.Method;
 import java.lang.reflect.Modifier;
 import java.nio.file.Files;
 import java.nio.file.Path;
+import java.util.ArrayList;
+import java.util.List;
 import java.util.Set;
 import java.util.TreeSet;
 import java.util.regex.Matcher;
 import java.util.regex.Pattern;
 
-/** The face of the document, and the rules of LANGUAGE.md that can be seen from outside. */
+/** The rules of LANGUAGE.md that can be seen from outside; FaceTest looks after the face. */
 final class LanguageTest {
-    private static final String[] FACE = {
-        "bestHeat 0", "clean 0", "clearText 0", "color 3", "colorInfo 2", "count 1", "counter 0",
-        "fault 1", "field 2", "fire 2", "ifFired 2", "layer 3", "leastFirings 0", "planned 2", "put 2",
-        "read 0", "set 2", "takeOff 1", "type 1", "undo 0", "wish 2", "wished 2",
-    };
-    private static final String[] CONSTANTS = {
-        "INVALID_ARGUMENT -1", "LIMIT_REACHED -3", "NOT_FOUND -4", "NOT_POSSIBLE -2",
-    };
+    private static final Path PROGRAM = Path.of("src/main/java/EnamelKiln.java");
+    private static final List<Class<?>> CLASSES = classes();
     private static final String[] FORBIDDEN = {
         "throw", "try", "catch", "finally", "synchronized", "assert", "import", "package", "->", "::",
         "@", "volatile", "transient", "native", "static {", "Object", "double", "float", "var",
     };
 
-    public static void main(String[] args) throws Exception {
-        face();
-        constants();
+    public static void main(String[] args) throws IOException {
         classesInside();
+        fields();
+        methods();
+        lengths();
         source();
         callsMakeNoObjects();
         Due.end();
     }
 
-    private static void same(String what, Set<String> got, String[] want) {
-        Set<String> due = new TreeSet<>(Set.of(want));
-        if (!got.equals(due)) {
-            System.out.println(what + ": " + got + ", due is " + due);
-        }
-        Due.is(what, got.equals(due) ? 1 : 0, 1);
-    }
-
-    private static void face() {
-        int mods = EnamelKiln.class.getModifiers();
-        Due.is("public and final", Modifier.isPublic(mods) && Modifier.isFinal(mods) ? 1 : 0, 1);
-        Due.is("constructors", EnamelKiln.class.getDeclaredConstructors().length, 1);
-        Set<String> open = new TreeSet<>();
-        Set<String> openNames = new TreeSet<>();
-        Set<String> closedNames = new TreeSet<>();
-        for (Method m : EnamelKiln.class.getDeclaredMethods()) {
-            if (Modifier.isPrivate(m.getModifiers())) {
-                closedNames.add(m.getName());
-            } else {
-                open.add(m.getName() + " " + m.getParameterCount());
-                openNames.add(m.getName());
-                Due.is(m + " answers an int", m.getReturnType() == int.class ? 1 : 0, 1);
-                for (Class<?> type : m.getParameterTypes()) {
-                    Due.is(m + " takes ints", type == int.class ? 1 : 0, 1);
-                }
-            }
-        }
-        same("methods", open, FACE);
-        closedNames.retainAll(openNames);
-        same("private methods with a public name", closedNames, new String[0]);
-    }
-
-    private static void constants() throws IllegalAccessException {
-        Set<String> open = new TreeSet<>();
-        for (Field f : EnamelKiln.class.getDeclaredFields()) {
-            int mods = f.getModifiers();
-            if (!Modifier.isPrivate(mods)) {
-                Due.is(f + " is a constant", Modifier.isStatic(mods) && Modifier.isFinal(mods) ? 1 : 0, 1);
-                open.add(f.getName() + " " + f.getInt(null));
-            }
-        }
-        same("constants", open, CONSTANTS);
+    private static List<Class<?>> classes() {
+        List<Class<?>> all = new ArrayList<>(List.of(EnamelKiln.class.getDeclaredClasses()));
+        all.add(EnamelKiln.class);
+        return all;
     }
 
     private static void classesInside() {
-        Class<?>[] inside = EnamelKiln.class.getDeclaredClasses();
-        Due.is("some twelve classes", inside.length <= 11 ? 1 : 0, 1);
-        for (Class<?> c : inside) {
-            int mods = c.getModifiers();
-            Due.is(c + " is static", Modifier.isStatic(mods) ? 1 : 0, 1);
-            Due.is(c + " is not open", Modifier.isPublic(mods) || Modifier.isProtected(mods) ? 1 : 0, 0);
-            for (Field f : c.getDeclaredFields()) {
-                Due.is(f + " is no static variable",
-                    Modifier.isStatic(f.getModifiers()) && !Modifier.isFinal(f.getModifiers()) ? 1 : 0, 0);
-            }
+        Due.is("some twelve classes", CLASSES.size() <= 12 ? 1 : 0, 1);
+        for (Class<?> inside : EnamelKiln.class.getDeclaredClasses()) {
+            int mods = inside.getModifiers();
+            Due.is(inside + " is static", Modifier.isStatic(mods) ? 1 : 0, 1);
+            Due.is(inside + " is not open", Modifier.isPublic(mods) || Modifier.isProtected(mods) ? 1 : 0, 0);
+            Due.is("classes inside " + inside, inside.getDeclaredClasses().length, 0);
         }
     }
 
+    private static void fields() {
+        for (Class<?> c : CLASSES) {
+            int fields = 0;
+            for (Field f : c.getDeclaredFields()) {
+                boolean isStatic = Modifier.isStatic(f.getModifiers());
+                Due.is(f + " is no static variable", isStatic && !Modifier.isFinal(f.getModifiers()) ? 1 : 0, 0);
+                fields += isStatic ? 0 : 1;
+            }
+            Due.is("some twenty fields of " + c, fields <= 20 ? 1 : 0, 1);
+        }
+    }
+
+    private static void methods() {
+        Set<String> open = new TreeSet<>();
+        Set<String> closed = new TreeSet<>();
+        for (Class<?> c : CLASSES) {
+            for (Method m : c.getDeclaredMethods()) {
+                (Modifier.isPublic(m.getModifiers()) ? open : closed).add(m.getName());
+                Due.is("at most seven parameters of " + m, m.getParameterCount() <= 7 ? 1 : 0, 1);
+            }
+        }
+        closed.retainAll(open);
+        Due.is("private methods with a public name: " + closed, closed.size(), 0);
+    }
+
+    private static void lengths() throws IOException {
+        int begin = 0;
+        int line = 0;
+        int seen = 0;
+        for (String text : Files.readAllLines(PROGRAM)) {
+            line++;
+            if (text.matches(" {4}( {4})?(public|private) .*\\(.*")) {
+                begin = line;
+            }
+            if (text.matches(" {4}( {4})?\\}") && begin > 0) {
+                Due.is("a short method behind line " + begin, line - begin < 60 ? 1 : 0, 1);
+                begin = 0;
+                seen++;
+            }
+        }
+        Due.is("methods of which the length was seen", seen > 22 ? 1 : 0, 1);
+    }
+
     private static void source() throws IOException {
-        String text = Files.readString(Path.of("src/main/java/EnamelKiln.java"));
+        String text = Files.readString(PROGRAM);
         String code = text.replaceAll("(?s)/\\*.*?\\*/", " ").replaceAll("//[^\n]*", " ");
         for (String word : FORBIDDEN) {
             boolean isWord = Character.isLetter(word.charAt(0));
@@ -106,7 +104,8 @@ final class LanguageTest {
         while (m.find()) {
             library.add(m.group());
         }
-        same("library", library, new String[] {"Math.abs", "Math.max", "Math.min", "System.arraycopy"});
+        library.removeAll(Set.of("Math.abs", "Math.max", "Math.min", "System.arraycopy"));
+        Due.is("library beside what is needed: " + library, library.size(), 0);
     }
 
     /** All calls of a run live in one room: so the constructor makes all objects. */
