@@ -26,22 +26,7 @@ final class FiringEdgesTest {
     private static EnamelKiln withLayer(int field, int state) {
         EnamelKiln x = new EnamelKiln();
         x.color(700, 800, 100);
-        x.put(field, 0);
-        if (state == GRAINY) {
-            x.fire(660, 1);
-        }
-        if (state == SMOOTH || state == DULL) {
-            x.fire(700, 3);
-        }
-        if (state == DULL) {
-            x.set(1, 0);
-            x.fire(680, 1);
-        }
-        if (state == BURNT) {
-            x.fire(801, 1);
-        }
-        Due.is("a layer in the state " + state, x.layer(field, 0, 1), state);
-        return x;
+        return Begun.withLayer(x, field, state);
     }
 
     /** A cracked field 0 with a smooth layer (700 to 850, pull 70); others that melt at 760, 860, 690. */
@@ -62,14 +47,7 @@ final class FiringEdgesTest {
     private static EnamelKiln withFullPlate() {
         EnamelKiln x = new EnamelKiln();
         x.color(700, 800, 100);
-        for (int layer = 0; layer < 3; layer++) {
-            for (int field = 0; field <= 6; field++) {
-                x.put(field, 0);
-            }
-            x.fire(660, 1);
-        }
-        Due.is("grainy ones", x.count(3), 21);
-        return x;
+        return Begun.withFullPlate(x);
     }
 
     private static void fired(int from, int heat, int minutes, int due) {

@@ -24,25 +24,8 @@ final class PlateEdgesTest {
         return x;
     }
 
-    /** A layer of the color 0 on the field in the state; a dull one has softened once. */
     private static EnamelKiln withLayer(int field, int state) {
-        EnamelKiln x = withColors();
-        x.put(field, 0);
-        if (state == GRAINY) {
-            x.fire(660, 1);
-        }
-        if (state == SMOOTH || state == DULL) {
-            x.fire(700, 3);
-        }
-        if (state == DULL) {
-            x.set(1, 0);
-            x.fire(680, 1);
-        }
-        if (state == BURNT) {
-            x.fire(801, 1);
-        }
-        Due.is("a layer in the state " + state, x.layer(field, 0, 1), state);
-        return x;
+        return Begun.withLayer(withColors(), field, state);
     }
 
     /** Three layers of the color 0, the outermost one raw, on the field. */
@@ -57,14 +40,7 @@ final class PlateEdgesTest {
     }
 
     private static EnamelKiln withFullPlate() {
-        EnamelKiln x = withColors();
-        for (int layer = 0; layer < 3; layer++) {
-            for (int field = 0; field <= 6; field++) {
-                Due.is("put on " + field, x.put(field, 0), layer);
-            }
-            x.fire(660, 1);
-        }
-        return x;
+        return Begun.withFullPlate(withColors());
     }
 
     private static void field(EnamelKiln x, int field, int what, int due) {
